@@ -773,6 +773,7 @@ public final class MudBoot {
         final int[] soils;
         final int[] totals;
         final int[] fars;
+        final int[] twins;
         final int[] parting;
         final int[] firstLayers;
         int cells;
@@ -785,6 +786,7 @@ public final class MudBoot {
             soils = new int[CELLS * SORTS];
             totals = new int[CELLS];
             fars = new int[LAYERS * CELLS];
+            twins = new int[CELLS];
             parting = new int[4];
             firstLayers = new int[LAYERS];
         }
@@ -844,11 +846,26 @@ public final class MudBoot {
         /** Fills parting: FAR, a, b, tenths of a; all NONE where fewer than two CELLS have SOIL. */
         void part(Layers boot, int layer) {
             for (int i = 0; i < parting.length; i++) parting[i] = NONE;
+            for (int cell = 0; cell < cells; cell++) twins[cell] = twinAhead(cell);
             for (int a = 0; a < cells; a++) {
+                // Smeared with a twin a LAYER is no nearer than with the one ahead, and the one ahead is the least.
+                if (totals[a] < 1 || twins[a] != NONE) continue;
                 for (int b = a + 1; b < cells; b++) {
-                    if (totals[a] > 0 && totals[b] > 0) partBetween(boot, layer, a, b);
+                    if (totals[b] > 0 && twins[b] <= a) partBetween(boot, layer, a, b);
                 }
             }
+        }
+
+        /** The nearest CELL ahead of one that has the same amounts; NONE if there is none. */
+        private int twinAhead(int cell) {
+            for (int other = cell - 1; other >= 0; other--) {
+                int same = 0;
+                for (int sort = 0; sort < SORTS; sort++) {
+                    if (soils[other * SORTS + sort] == soils[cell * SORTS + sort]) same++;
+                }
+                if (same == SORTS) return other;
+            }
+            return NONE;
         }
 
         private void partBetween(Layers boot, int layer, int a, int b) {
@@ -934,7 +951,7 @@ public final class MudBoot {
             distances[row + from] = 0;
             queue[0] = from;
             int waiting = 1;
-            for (int done = 0; done < waiting; done++) {
+            for (int done = 0; done < waiting && done < CELLS; done++) {
                 int cell = queue[done];
                 int x = land.wide < 1 ? 0 : cell % land.wide;
                 if (x > 0) waiting = reach(land, row, cell, cell - 1, waiting);
@@ -966,13 +983,14 @@ public final class MudBoot {
             for (int cell = 0; cell < cells; cell++) measure(state.land, cell);
             for (int layer = last; layer >= 0; layer--) {
                 for (int cell = 0; cell < cells; cell++) {
-                    int onwards = layer == last ? 0 : costTo(cell, layer + 1, bestNext(cell, layer + 1, cells, pace), pace);
-                    boolean none = onwards == NONE || !survey.isAlike(layer, cell);
-                    costs[layer * CELLS + cell] = none ? NONE : survey.farAt(layer, cell) + onwards;
+                    int onwards = NONE;
+                    boolean alike = survey.isAlike(layer, cell);
+                    if (alike) onwards = layer == last ? 0 : restFrom(cell, layer + 1, cells, pace);
+                    costs[layer * CELLS + cell] = onwards == NONE ? NONE : survey.farAt(layer, cell) + onwards;
                 }
             }
             int at = state.told.beginning;
-            leastCost = costTo(at, 0, bestNext(at, 0, cells, pace), pace);
+            leastCost = restFrom(at, 0, cells, pace);
             for (int layer = 0; layer <= last; layer++) {
                 at = bestNext(at, layer, cells, pace);
                 chosen[layer] = at;
@@ -991,6 +1009,10 @@ public final class MudBoot {
                 least = cost;
             }
             return best;
+        }
+
+        private int restFrom(int from, int layer, int cells, int pace) {
+            return costTo(from, layer, bestNext(from, layer, cells, pace), pace);
         }
 
         /** What it costs from a CELL to that of a LAYER and from there to the last; NONE if one can't come there. */
@@ -1022,7 +1044,8 @@ public final class MudBoot {
      * sign for OPS + its kind, behind what it works on; a CLAUSE ends with OPS + take, lose, new or falls.
      */
     private static final class Laws {
-        static final String NAMES = "take lose new falls or and not wet hour red grey chalk sand wing layers mass far steps ";
+        static final String NAMES =
+            "take lose new falls or and not wet hour red grey chalk sand wing layers mass far steps ";
         static final String SIGNS = "<>=#+-*/();";
         static final int TAKE = 0;
         static final int LOSE = 1;
@@ -1062,11 +1085,13 @@ public final class MudBoot {
         boolean hasRead;
         int flaw;
         int place;
-        private int law;
-        private int at;
+        private final int[] kinds;
+        private final int[] begins;
+        private final int[] numbers;
+        private int tokens;
+        private int next;
         private int kind;
-        private int begin;
-        private int number;
+        private int law;
         private boolean hasTake;
         private boolean hasLose;
 
@@ -1074,6 +1099,9 @@ public final class MudBoot {
             tape = new char[TEXT];
             code = new int[LAWS * TEXT];
             codeLengths = new int[LAWS];
+            kinds = new int[TEXT + 1];
+            begins = new int[TEXT + 1];
+            numbers = new int[TEXT + 1];
             place = NONE;
         }
 
@@ -1104,50 +1132,56 @@ public final class MudBoot {
             place = NONE;
             hasTake = false;
             hasLose = false;
-            at = 0;
-            advance();
-            boolean fine = readClauses();
+            split();
             length = 0;
-            return fine;
-        }
-
-        private boolean refuse(int number) {
-            flaw = number;
-            place = begin;
-            return false;
-        }
-
-        private void emit(int sign) {
-            int end = codeLengths[law];
-            if (end >= TEXT) return;
-            code[law * TEXT + end] = sign;
-            codeLengths[law] = end + 1;
+            for (int clause = 0; clause <= TEXT && kind != END; clause++) {
+                if (!readClause(clause)) return false;
+            }
+            return kind == END;
         }
 
         // TOKENS
 
-        private void advance() {
-            while (at < length && isBlank(tape[at])) at++;
-            begin = at;
-            if (at >= length) {
-                kind = END;
-                return;
+        /** Cuts the tape into TOKENS, the end behind them, and stands at the first. */
+        private void split() {
+            tokens = 0;
+            int at = 0;
+            for (int n = 0; n < TEXT && at < length; n++) {
+                at = isBlank(tape[at]) ? at + 1 : cut(at);
             }
-            char first = tape[at];
+            kinds[tokens] = END;
+            begins[tokens] = length;
+            next = 0;
+            kind = kinds[0];
+        }
+
+        /** Adds the TOKEN that begins at a byte; answers where it ends. */
+        private int cut(int begin) {
+            if (begin < 0 || begin >= length || tokens >= TEXT) return length;
+            char first = tape[begin];
+            int end = begin + 1;
+            int number = 0;
+            int found;
             if (isLetter(first)) {
-                while (at < length && isLetter(tape[at])) at++;
-                kind = nameKind();
+                while (end < length && isLetter(tape[end])) end++;
+                found = nameKind(begin, end);
             } else if (isDigit(first)) {
-                number = 0;
-                while (at < length && isDigit(tape[at])) {
-                    number = Math.min(NUMBER_MOST + 1, number * 10 + (tape[at] - '0'));
-                    at++;
+                for (end = begin; end < length && isDigit(tape[end]); end++) {
+                    number = Math.min(NUMBER_MOST + 1, number * 10 + (tape[end] - '0'));
                 }
-                kind = NUMBER;
+                found = NUMBER;
+            } else if ((first == '<' || first == '>') && end < length && tape[end] == '=') {
+                end++;
+                found = first == '<' ? NOT_MORE : NOT_LESS;
             } else {
-                at++;
-                kind = signKind(first);
+                int sign = SIGNS.indexOf(first);
+                found = sign < 0 ? UNKNOWN : LESS + sign;
             }
+            kinds[tokens] = found;
+            begins[tokens] = begin;
+            numbers[tokens] = number;
+            tokens++;
+            return end;
         }
 
         private static boolean isBlank(char sign) {
@@ -1162,43 +1196,45 @@ public final class MudBoot {
             return sign >= '0' && sign <= '9';
         }
 
-        private int nameKind() {
+        private int nameKind(int begin, int end) {
             int names = 0;
             int from = 0;
             for (int to = 0; to < NAMES.length(); to++) {
                 if (NAMES.charAt(to) != ' ') continue;
-                if (isName(from, to)) return names;
+                if (to - from == end - begin && isName(from, begin, end)) return names;
                 names++;
                 from = to + 1;
             }
             return UNKNOWN;
         }
 
-        private boolean isName(int from, int to) {
-            if (to - from != at - begin || begin < 0 || at > TEXT) return false;
-            for (int i = 0; i < to - from; i++) {
-                if (NAMES.charAt(from + i) != tape[begin + i]) return false;
+        private boolean isName(int from, int begin, int end) {
+            if (from < 0 || from + end - begin > NAMES.length() || begin < 0 || end > length) return false;
+            for (int i = begin; i < end; i++) {
+                if (NAMES.charAt(from + i - begin) != tape[i]) return false;
             }
             return true;
         }
 
-        private int signKind(char sign) {
-            int found = SIGNS.indexOf(sign);
-            if (found < 0) return UNKNOWN;
-            boolean withSame = (sign == '<' || sign == '>') && at < length && tape[at] == '=';
-            if (!withSame) return LESS + found;
-            at++;
-            return sign == '<' ? NOT_MORE : NOT_LESS;
+        private void advance() {
+            if (next < tokens) next++;
+            kind = kinds[next];
         }
 
-        // CLAUSES
-
-        private boolean readClauses() {
-            for (int n = 0; n <= TEXT && kind != END; n++) {
-                if (!readClause(n)) return false;
-            }
-            return kind == END;
+        private boolean refuse(int number) {
+            flaw = number;
+            place = begins[next];
+            return false;
         }
+
+        private void emit(int sign) {
+            int end = codeLengths[law];
+            if (end >= TEXT) return;
+            code[law * TEXT + end] = sign;
+            codeLengths[law] = end + 1;
+        }
+
+        // CLAUSES: each reads from the TOKEN where it stands, and answers false at a FAULT.
 
         private boolean readClause(int ahead) {
             int clause = kind;
@@ -1216,96 +1252,80 @@ public final class MudBoot {
             return true;
         }
 
+        /** ASKS with and, or between them: an or waits until all that and joins behind it is read. */
         private boolean readEither() {
-            if (!readBoth()) return false;
-            for (int n = 0; n < TEXT && kind == OR; n++) {
+            if (!readAsk()) return false;
+            boolean orWaits = false;
+            for (int n = 0; n < TEXT && (kind == OR || kind == AND); n++) {
+                boolean isOr = kind == OR;
+                if (isOr && orWaits) emit(OPS + OR);
+                if (isOr) orWaits = true;
                 advance();
-                if (!readBoth()) return false;
-                emit(OPS + OR);
+                if (!readAsk()) return false;
+                if (!isOr) emit(OPS + AND);
             }
+            if (orWaits) emit(OPS + OR);
             return true;
         }
 
-        private boolean readBoth() {
-            if (!readAsk(0)) return false;
-            for (int n = 0; n < TEXT && kind == AND; n++) {
+        private boolean readAsk() {
+            int nots = 0;
+            while (kind == NOT && nots < OPEN_MOST) {
+                nots++;
                 advance();
-                if (!readAsk(0)) return false;
-                emit(OPS + AND);
             }
-            return true;
-        }
-
-        // Of all below: open is how many of ( not and - are open around what is read.
-
-        private boolean readAsk(int open) {
-            if (kind == NOT) {
-                if (open >= OPEN_MOST) return refuse(3);
-                advance();
-                if (!readAsk(open + 1)) return false;
-                emit(OPS + NOT);
-                return true;
-            }
-            if (!readSum(open)) return false;
+            if (kind == NOT) return refuse(3);
+            if (!readSum(nots)) return false;
             int sign = kind;
             if (!isWithin(sign, LESS, UNLIKE) && sign != NOT_MORE && sign != NOT_LESS) return refuse(1);
             advance();
-            if (!readSum(open)) return false;
+            if (!readSum(nots)) return false;
             emit(OPS + sign);
+            for (int n = 0; n < nots; n++) emit(OPS + NOT);
             return true;
         }
 
+        /**
+         * ONES with signs between them: + or - waits until the PRODUCT behind it is read.
+         * Open is how many of ( not and - are open around it.
+         */
         private boolean readSum(int open) {
-            if (!readProduct(open)) return false;
-            for (int n = 0; n < TEXT && (kind == PLUS || kind == MINUS); n++) {
-                int sign = kind;
-                advance();
-                if (!readProduct(open)) return false;
-                emit(OPS + sign);
-            }
-            return true;
-        }
-
-        private boolean readProduct(int open) {
             if (!readOne(open)) return false;
-            for (int n = 0; n < TEXT && (kind == TIMES || kind == BY); n++) {
+            int waiting = NONE;
+            for (int n = 0; n < TEXT && isWithin(kind, PLUS, BY); n++) {
                 int sign = kind;
+                boolean isProduct = sign == TIMES || sign == BY;
+                if (!isProduct && waiting != NONE) emit(OPS + waiting);
+                if (!isProduct) waiting = sign;
                 advance();
                 if (!readOne(open)) return false;
-                emit(OPS + sign);
+                if (isProduct) emit(OPS + sign);
             }
+            if (waiting != NONE) emit(OPS + waiting);
             return true;
         }
 
         private boolean readOne(int open) {
             if (kind == NUMBER) {
-                if (number > NUMBER_MOST) return refuse(2);
-                emit(number);
-                advance();
-                return true;
-            }
-            if (isWithin(kind, WORD, WORD + WORDS - 1)) {
+                if (numbers[next] > NUMBER_MOST) return refuse(2);
+                emit(numbers[next]);
+            } else if (isWithin(kind, WORD, WORD + WORDS - 1)) {
                 emit(OPS + kind);
+            } else if (kind != OPEN && kind != MINUS) {
+                return refuse(1);
+            } else if (open >= OPEN_MOST) {
+                return refuse(3);
+            } else if (kind == MINUS) {
                 advance();
+                if (!readOne(open + 1)) return false;
+                emit(OPS + NEGATIVE);
                 return true;
+            } else {
+                advance();
+                if (!readSum(open + 1)) return false;
+                if (kind != CLOSE) return refuse(1);
             }
-            if (kind != OPEN && kind != MINUS) return refuse(1);
-            if (open >= OPEN_MOST) return refuse(3);
-            return kind == OPEN ? readInner(open + 1) : readNegative(open + 1);
-        }
-
-        private boolean readInner(int open) {
             advance();
-            if (!readSum(open)) return false;
-            if (kind != CLOSE) return refuse(1);
-            advance();
-            return true;
-        }
-
-        private boolean readNegative(int open) {
-            advance();
-            if (!readOne(open)) return false;
-            emit(OPS + NEGATIVE);
             return true;
         }
     }
@@ -1347,8 +1367,11 @@ public final class MudBoot {
         }
 
         private void tread() {
+            look();
             mud.lessen(within(judge(Laws.LOSE, 0), 0, 100));
+            look();
             if (judge(Laws.FALLS, 0) != 0) mud.dropOutermost();
+            look();
             int take = within(judge(Laws.TAKE, TAKE_WITHOUT), 0, LAYER_MOST);
             int grains = 0;
             for (int sort = 0; sort < SORTS; sort++) grains += grainsOf(take, sort);
@@ -1378,7 +1401,6 @@ public final class MudBoot {
         /** What THE LAW says now of a clause; of new and falls 1 if one of them is so. */
         private int judge(int clause, int without) {
             if (laws == null || !isWithin(law, 0, LAWS - 1)) return without;
-            look();
             int answer = without;
             top = 0;
             for (int i = 0; i < laws.codeLengths[law] && i < TEXT; i++) {
