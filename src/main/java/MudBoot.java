@@ -367,6 +367,10 @@ public final class MudBoot {
         return all;
     }
 
+    private static void copyFlags(boolean[] from, boolean[] to) {
+        for (int i = 0; i < from.length && i < to.length; i++) to[i] = from[i];
+    }
+
     /** FAR of the amounts at one place from those at another; amounts of nothing are as far as can be. */
     private static int farBetween(int[] one, int oneAt, int[] other, int otherAt) {
         long oneAll = together(one, oneAt);
@@ -435,9 +439,9 @@ public final class MudBoot {
 
         void copyFrom(Land other) {
             System.arraycopy(other.dug, 0, dug, 0, CELLS * SORTS);
-            System.arraycopy(other.isDug, 0, isDug, 0, CELLS);
+            copyFlags(other.isDug, isDug);
             System.arraycopy(other.origin, 0, origin, 0, CELLS);
-            System.arraycopy(other.barred, 0, barred, 0, CELLS);
+            copyFlags(other.barred, barred);
             dugCount = other.dugCount;
         }
 
@@ -720,8 +724,8 @@ public final class MudBoot {
         void copyFrom(Verdicts other) {
             System.arraycopy(other.lookers, 0, lookers, 0, VERDICTS);
             System.arraycopy(other.places, 0, places, 0, VERDICTS);
-            System.arraycopy(other.said, 0, said, 0, VERDICTS);
-            System.arraycopy(other.knowing, 0, knowing, 0, VERDICTS);
+            copyFlags(other.said, said);
+            copyFlags(other.knowing, knowing);
             count = other.count;
         }
 
@@ -1305,27 +1309,29 @@ public final class MudBoot {
             return true;
         }
 
-        private boolean readOne(int open) {
+        private boolean readOne(int openAround) {
+            int open = openAround;
+            while (kind == MINUS && open < OPEN_MOST) {
+                open++;
+                advance();
+            }
+            if (kind == MINUS) return refuse(3);
             if (kind == NUMBER) {
                 if (numbers[next] > NUMBER_MOST) return refuse(2);
                 emit(numbers[next]);
             } else if (isWithin(kind, WORD, WORD + WORDS - 1)) {
                 emit(OPS + kind);
-            } else if (kind != OPEN && kind != MINUS) {
+            } else if (kind != OPEN) {
                 return refuse(1);
             } else if (open >= OPEN_MOST) {
                 return refuse(3);
-            } else if (kind == MINUS) {
-                advance();
-                if (!readOne(open + 1)) return false;
-                emit(OPS + NEGATIVE);
-                return true;
             } else {
                 advance();
                 if (!readSum(open + 1)) return false;
                 if (kind != CLOSE) return refuse(1);
             }
             advance();
+            for (int n = openAround; n < open; n++) emit(OPS + NEGATIVE);
             return true;
         }
     }

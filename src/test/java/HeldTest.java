@@ -89,6 +89,20 @@ public final class HeldTest {
         CHECKS.due("no pairs", x.held(0, 2), 2);
     }
 
+    private static void allAlone() {
+        MudBoot x = sorts();
+        walk(x, 0, 0, 0, 0, 0, 0, 0, 0, 0);
+        for (int n = 0; n < 8; n++) x.layer(0, 1, 0, 0, 0);
+        CHECKS.due("eight pairs would cost 8000", x.held(0, 0), 8 * 700);
+        CHECKS.due("all walked ones", x.held(0, 1), 8);
+        CHECKS.due("all of the boot", x.held(0, 2), 8);
+        for (int n = 0; n < 8; n++) CHECKS.due("no pair", x.held(0, 100 + n), -1);
+        x.rules(150, 10, 0, 600, 600);
+        CHECKS.due("eight pairs", x.held(0, 0), 8000);
+        CHECKS.due("none alone", x.held(0, 1), 0);
+        for (int n = 0; n < 8; n++) CHECKS.due("pair", x.held(0, 100 + n), n);
+    }
+
     private static void believed() {
         MudBoot x = sorts();
         x.layer(1, 0, 0, 0, 0);
@@ -111,6 +125,7 @@ public final class HeldTest {
         held();
         ofLikeOnes();
         byFar();
+        allAlone();
         believed();
         CHECKS.finish("HeldTest");
     }

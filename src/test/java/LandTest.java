@@ -83,6 +83,17 @@ public final class LandTest {
         CHECKS.due("no circle any more", x.carry(3, 1), true);
     }
 
+    private static void longRow() {
+        MudBoot x = new MudBoot(8, 8);
+        for (int cell = 0; cell < 63; cell++) CHECKS.due("carry", x.carry(cell, cell + 1), true);
+        CHECKS.due("a circle of all", x.carry(63, 0), false);
+        x.dig(63, 0, 0, 0, 7, 0);
+        CHECKS.due("carried over 63", x.soil(0, 3), 7);
+        x.dig(1, 0, 0, 0, 0, 5);
+        CHECKS.due("from the next", x.soil(0, 4), 5);
+        CHECKS.due("from the last", x.soil(2, 3), 7);
+    }
+
     private static void bar() {
         MudBoot x = new MudBoot(3, 3);
         CHECKS.due("bar", x.bar(4, true), true);
@@ -140,6 +151,7 @@ public final class LandTest {
         newObject();
         dig();
         carry();
+        longRow();
         bar();
         soil();
         span();

@@ -77,6 +77,15 @@ public final class LawTest {
         CHECKS.fault("  Take 1;", 1, 2);
         CHECKS.fault("taken 1;", 1, 0);
         CHECKS.fault("take1;", 0, -1);
+        CHECKS.fault("takez 1;", 1, 0);
+        CHECKS.fault("takea 1;", 1, 0);
+        CHECKS.fault("takeA 1;", 1, 0);
+        CHECKS.fault("takeZ 1;", 1, 0);
+        CHECKS.fault("take@1;", 1, 4);
+        CHECKS.fault("take[1;", 1, 4);
+        CHECKS.fault("take`1;", 1, 4);
+        CHECKS.fault("take{1;", 1, 4);
+        CHECKS.fault("take 1/:;", 1, 7);
         CHECKS.fault("wet;", 1, 0);
         CHECKS.fault("5;", 1, 0);
         CHECKS.fault(";", 1, 0);
@@ -163,6 +172,9 @@ public final class LawTest {
         StringBuilder ones = new StringBuilder("new 1#1");
         while (ones.length() < 294) ones.append("or 0#1");
         CHECKS.fault(ones + ";", 0, -1);
+        CHECKS.fault(";".repeat(300), 1, 0);
+        CHECKS.fault(" ".repeat(299) + "!", 1, 299);
+        CHECKS.fault(" ".repeat(300), 0, -1);
     }
 
     public static void main(String[] args) {

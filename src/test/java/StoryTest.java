@@ -72,7 +72,13 @@ public final class StoryTest {
         CHECKS.due("each step", taken("9999*9999-9999*9999+3", 0, 0), 3);
         CHECKS.due("sums are cut too", taken("(9999*9999+9999-9999*99)/1000", 0, 0), 10);
         CHECKS.due("and below", taken("(-9999*9999-9999+9999*99+9999+100)/1000+20", 0, 0), 20);
+        CHECKS.due("just 1000000", taken("9999*9999-9999*100-50", 0, 0), 50);
+        CHECKS.due("just -1000000", taken("-9999*9999+9999*100+150", 0, 0), 50);
+        CHECKS.due("of a sum", taken("9999*100+9999-9999*100-50", 0, 0), 50);
+        CHECKS.due("of a sum below", taken("-9999*100-9999+9999*100+150", 0, 0), 50);
+        CHECKS.due("minus of a bracket", taken("50--(2*-(3+4))", 0, 0), 36);
         CHECKS.due("share", taken("red/20", 0, 0), 50);
+        CHECKS.due("share of all", taken("red-950", 0, 0), 50);
         CHECKS.due("no share", taken("grey+chalk+sand+wing+5", 0, 0), 5);
         CHECKS.due("no layers", taken("layers+mass+1", 0, 0), 1);
         CHECKS.due("far without", taken("far/20", 0, 0), 50);
@@ -110,6 +116,10 @@ public final class StoryTest {
         CHECKS.due("and", isNew("1=1 and 1=1 and 1=1"), true);
         CHECKS.due("or", isNew("1=2 or 1=2 or 1=1"), true);
         CHECKS.due("or", isNew("1=2 or 1=2"), false);
+        CHECKS.due("or", isNew("1=2 or 1=2 or 1=2"), false);
+        CHECKS.due("or", isNew("1=1 or 1=2 or 1=2"), true);
+        CHECKS.due("or", isNew("1=2 or 1=1 or 1=2"), true);
+        CHECKS.due("or and and", isNew("1=2 or 1=1 and 1=2 or 1=2"), false);
         CHECKS.due("not of one ask", isNew("not 1=1 or 1=1"), true);
         CHECKS.due("not of one ask", isNew("not 1=2 and 1=2"), false);
         CHECKS.due("any clause", isNew("1=2; new 1=1; new 1=2"), true);
