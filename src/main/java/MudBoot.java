@@ -342,15 +342,16 @@ public final class MudBoot {
     }
 
     private static int within(int value, int least, int most) {
-        return Math.max(least, Math.min(most, value));
+        if (value < least) return least;
+        return value > most ? most : value;
     }
 
     private static boolean isSort(int sort) {
-        return isWithin(sort, 0, SORTS - 1);
+        return sort >= 0 && sort < SORTS;
     }
 
     private static boolean isStory(int story) {
-        return isWithin(story, 0, STORIES - 1);
+        return story >= 0 && story < STORIES;
     }
 
     private static boolean areGrains(int red, int grey, int chalk, int sand, int wing, int most) {

@@ -179,6 +179,180 @@ public final class BootTest {
         CHECKS.due("of 0", x.parted(0, 3), 1);
     }
 
+    private static void layerEdges() {
+        MudBoot x = new MudBoot(3, 3);
+        x.dig(0, 1, 1, 1, 1, 1);
+        for (int sort = 0; sort < 5; sort++) {
+            x.clean();
+            int[] v = new int[5];
+            v[sort] = 1;
+            CHECKS.due("1 together of " + sort, x.layer(v[0], v[1], v[2], v[3], v[4]), 0);
+            CHECKS.due("far of it", x.far(0, 0), 800);
+            v[sort] = 99;
+            CHECKS.due("99 of " + sort, x.layer(v[0], v[1], v[2], v[3], v[4]), 1);
+            CHECKS.due("far of it", x.far(1, 0), 800);
+            v[sort] = 100;
+            CHECKS.due("100 of " + sort, x.layer(v[0], v[1], v[2], v[3], v[4]), -1);
+            v[sort] = -1;
+            CHECKS.due("-1 of " + sort, x.layer(v[0], v[1], v[2], v[3], v[4]), -1);
+            v[(sort + 1) % 5] = 5;
+            CHECKS.due("-1 with 5 of another", x.layer(v[0], v[1], v[2], v[3], v[4]), -1);
+            CHECKS.due("refused ones are not on", x.about(3), 2);
+        }
+        x.clean();
+        for (int n = 0; n < 8; n++) x.layer(n + 1, 0, 0, 0, 0);
+        CHECKS.due("the ninth", x.layer(1, 1, 1, 1, 1), -1);
+        CHECKS.due("eight stay", x.about(3), 8);
+        CHECKS.due("the last is as it was", x.far(7, 0), 800);
+        CHECKS.due("no layer 8", x.far(8, 0), -1);
+        CHECKS.due("cleaned", x.clean(), 8);
+        CHECKS.due("no layer 0 then", x.far(0, 0), -1);
+    }
+
+    private static void refusedRules() {
+        int[][] wrong = {{-1, 0, 0, 0, 0}, {1001, 0, 0, 0, 0}, {0, -1, 0, 0, 0}, {0, 100, 0, 0, 0}, {0, 0, -1, 0, 0},
+            {0, 0, 12, 0, 0}, {0, 0, 0, -1, 0}, {0, 0, 0, 1001, 0}, {0, 0, 0, 0, -1}, {0, 0, 0, 0, 1001},
+            {Integer.MIN_VALUE, 0, 0, 0, 0}, {0, 0, 0, 0, Integer.MAX_VALUE}};
+        for (int[] w : wrong) {
+            MudBoot x = new MudBoot(3, 3);
+            CHECKS.due("refused", x.rules(w[0], w[1], w[2], w[3], w[4]), false);
+            x.dig(0, 3, 7, 0, 0, 0);
+            x.layer(9, 11, 0, 0, 0);
+            CHECKS.due("far is 150: bound is 150", x.where(0, -1), 9);
+            x.start(8);
+            for (int cell = 1; cell < 9; cell++) x.dig(cell, 0, 0, 1, 0, 0);
+            CHECKS.due("pace is 10", x.way(-1), 40 + 150);
+            x.flowers(0, 5, 5);
+            CHECKS.due("keep is 0", x.months(0), 32);
+            CHECKS.due("odd is 400", x.held(0, 0), 400);
+            x.step(0, 1, 0, 0);
+            x.clean();
+            CHECKS.due("missing is 300", x.held(0, 0), 300);
+        }
+    }
+
+    private static void bounds() {
+        MudBoot x = new MudBoot(3, 3);
+        x.dig(0, 9, 9, 9, 9, 9);
+        x.layer(99, 99, 99, 99, 98);
+        x.layer(1, 1, 1, 1, 1);
+        x.layer(1, 0, 0, 0, 0);
+        CHECKS.due("72 of 44460, cut", x.far(0, 0), 1);
+        x.rules(0, 10, 0, 300, 400);
+        CHECKS.due("1 is above 0", x.where(0, -1), 0);
+        CHECKS.due("0 is 0", x.where(1, -1), 9);
+        CHECKS.due("a ninth of all, cut", x.odds(1, 8), 111);
+        x.rules(1, 10, 0, 300, 400);
+        CHECKS.due("1 is 1", x.where(0, -1), 9);
+        x.rules(799, 10, 0, 300, 400);
+        CHECKS.due("800 is above 799", x.where(2, -1), 0);
+        CHECKS.due("no odds", x.odds(2, 0), 0);
+        x.rules(800, 10, 0, 300, 400);
+        CHECKS.due("800 is 800", x.where(2, -1), 9);
+        CHECKS.due("odds of 1 in 9", x.odds(2, 0), 111);
+        x.dig(8, 0, 1, 0, 0, 0);
+        x.rules(1000, 10, 0, 300, 400);
+        CHECKS.due("1000 is 1000", x.where(2, -1), 9);
+        CHECKS.due("the last of all", x.where(2, 8), 8);
+        CHECKS.due("none behind it", x.where(2, 9), -1);
+        CHECKS.due("none so far behind", x.where(2, Integer.MAX_VALUE), -1);
+        CHECKS.due("none so far ahead", x.where(2, Integer.MIN_VALUE), -1);
+        MudBoot y = new MudBoot(8, 8);
+        y.dig(0, 1, 0, 0, 0, 0);
+        y.layer(1, 0, 0, 0, 0);
+        CHECKS.due("none behind 63", y.where(0, 64), -1);
+        CHECKS.due("odds of 64", y.odds(0, 63), 15);
+        CHECKS.due("no cell 64", y.odds(0, 64), -1);
+        CHECKS.due("far of 63", y.far(0, 63), 0);
+        CHECKS.due("no cell 64", y.far(0, 64), -1);
+    }
+
+    /** A land all of grey where nothing else is dug behind it. */
+    private static MudBoot grey(int wide, int high) {
+        MudBoot x = new MudBoot(wide, high);
+        for (int cell = 0; cell < wide * high; cell++) x.dig(cell, 0, 1, 0, 0, 0);
+        return x;
+    }
+
+    private static void parts(String call, MudBoot x, int layer, int far, int a, int b, int tenths) {
+        CHECKS.due(call + ": far", x.parted(layer, 0), far);
+        CHECKS.due(call + ": a", x.parted(layer, 1), a);
+        CHECKS.due(call + ": b", x.parted(layer, 2), b);
+        CHECKS.due(call + ": tenths", x.parted(layer, 3), tenths);
+    }
+
+    private static void tenths() {
+        MudBoot x = grey(3, 3);
+        x.dig(0, 5, 0, 0, 0, 0);
+        x.layer(1, 0, 0, 0, 0);
+        parts("nine tenths of a at most", x, 0, 100, 0, 1, 9);
+        x = grey(3, 3);
+        x.dig(8, 5, 0, 0, 0, 0);
+        x.layer(1, 0, 0, 0, 0);
+        parts("one tenth of a at least", x, 0, 100, 0, 8, 1);
+        x.layer(0, 7, 0, 0, 0);
+        parts("of like ones the least of all", x, 1, 0, 0, 1, 1);
+        x.layer(19, 1, 0, 0, 0);
+        parts("50 beyond the last tenth", x, 2, 50, 0, 8, 1);
+        x.layer(17, 3, 0, 0, 0);
+        parts("between two tenths, the least", x, 3, 50, 0, 8, 1);
+        x = grey(3, 3);
+        x.dig(3, 2, 0, 0, 0, 0);
+        x.dig(5, 0, 0, 3, 0, 0);
+        x.layer(7, 0, 3, 0, 0);
+        parts("neither the first nor the last", x, 0, 0, 3, 5, 7);
+        x.layer(1, 1, 0, 0, 0);
+        parts("half grey", x, 1, 0, 0, 3, 5);
+        x.layer(0, 1, 9, 0, 0);
+        parts("a tenth grey", x, 2, 0, 0, 5, 1);
+        x.layer(0, 0, 9, 0, 1);
+        parts("wing is nowhere", x, 3, 100, 0, 5, 1);
+    }
+
+    private static void unlikeInAll() {
+        MudBoot x = new MudBoot(3, 3);
+        for (int cell = 0; cell < 9; cell++) x.dig(cell, 0, 0, 9, 0, 0);
+        x.dig(0, 1, 1, 1, 1, 1);
+        x.dig(1, 9, 0, 0, 0, 0);
+        x.dig(2, 0, 9, 0, 0, 0);
+        x.layer(1, 1, 0, 0, 0);
+        parts("amounts of one and none", x, 0, 0, 1, 2, 5);
+        x.layer(1, 0, 4, 0, 0);
+        parts("a fifth of red", x, 1, 0, 1, 3, 2);
+        x.dig(0, 1, 0, 0, 0, 1);
+        x.dig(1, 0, 1, 0, 0, 0);
+        x.dig(2, 1, 0, 9, 0, 0);
+        x.dig(3, 0, 0, 0, 9, 0);
+        x.layer(1, 0, 9, 10, 0);
+        parts("amounts of a row and of its neighbour", x, 2, 0, 2, 3, 5);
+    }
+
+    private static void partedEdges() {
+        MudBoot x = grey(8, 8);
+        x.layer(1, 1, 0, 0, 0);
+        x.dig(63, 1, 0, 0, 0, 0);
+        parts("with the last cell", x, 0, 0, 0, 63, 5);
+        x.dig(62, 0, 0, 0, 0, 9);
+        x.layer(1, 0, 0, 0, 1);
+        parts("the last two", x, 1, 0, 62, 63, 5);
+        MudBoot y = new MudBoot(8, 8);
+        int[] ring = {3, 10, 12, 17, 21, 24, 30, 33, 37, 42, 44, 51};
+        for (int cell : ring) y.dig(cell, 9, 9, 9, 9, 9);
+        y.layer(99, 99, 99, 99, 99);
+        parts("big amounts", y, 0, 0, 0, 1, 1);
+        y.layer(99, 0, 0, 0, 0);
+        parts("and far ones", y, 1, 800, 0, 1, 1);
+        MudBoot z = new MudBoot(3, 3);
+        z.layer(1, 0, 0, 0, 0);
+        z.carry(1, 2);
+        CHECKS.due("no soil, though carried", z.parted(0, 0), -1);
+        z.dig(4, 1, 0, 0, 0, 0);
+        parts("one is dug, all have soil", z, 0, 0, 0, 1, 1);
+        CHECKS.due("others", z.parted(0, Integer.MAX_VALUE), -1);
+        CHECKS.due("others", z.parted(0, Integer.MIN_VALUE), -1);
+        CHECKS.due("no layer 8", z.parted(8, 0), -1);
+    }
+
     public static void main(String[] args) {
         layer();
         rules();
@@ -186,6 +360,12 @@ public final class BootTest {
         where();
         odds();
         parted();
+        layerEdges();
+        refusedRules();
+        bounds();
+        tenths();
+        unlikeInAll();
+        partedEdges();
         CHECKS.finish("BootTest");
     }
 }

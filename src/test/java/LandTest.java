@@ -147,6 +147,123 @@ public final class LandTest {
         CHECKS.due("no such sort", x.span(0, 5, true), -1);
     }
 
+    private static void sizes() {
+        for (int a = 0; a <= 11; a++) {
+            int due = a < 3 ? 3 : a > 8 ? 8 : a;
+            MudBoot x = new MudBoot(a, 4);
+            CHECKS.due("A of " + a, x.about(0), due);
+            CHECKS.due("the last cell of A " + a, x.bar(4 * due - 1, false), true);
+            CHECKS.due("one more of A " + a, x.bar(4 * due, false), false);
+            MudBoot y = new MudBoot(5, a);
+            CHECKS.due("B of " + a, y.about(1), due);
+            CHECKS.due("the last cell of B " + a, y.bar(5 * due - 1, false), true);
+            CHECKS.due("one more of B " + a, y.bar(5 * due, false), false);
+        }
+    }
+
+    private static void atFirst() {
+        MudBoot x = new MudBoot(8, 8);
+        for (int cell = 0; cell < 64; cell++) {
+            CHECKS.due("not barred: " + cell, x.paces(cell, cell), 0);
+            CHECKS.due("no soil: " + cell, x.soil(cell, -1), -1);
+            CHECKS.due("no red: " + cell, x.soil(cell, 0), -1);
+            CHECKS.due("no span: " + cell, x.span(cell, 0, false), -1);
+        }
+        // No cell is carried to: each can be the trowel's.
+        x.layer(1, 0, 0, 0, 0);
+        x.dig(63, 1, 0, 0, 0, 0);
+        CHECKS.due("cell 0 is not carried to", x.trowel(0), 0);
+        for (int cell = 0; cell < 63; cell++) CHECKS.due("no soil but of 63: " + cell, x.soil(cell, 0), 1);
+    }
+
+    private static void refusedDigs() {
+        MudBoot x = new MudBoot(3, 3);
+        x.dig(4, 0, 5, 0, 0, 0);
+        CHECKS.due("10 of a sort", x.dig(4, 10, 0, 0, 0, 0), -1);
+        CHECKS.due("nothing together", x.dig(4, 0, 0, 0, 0, 0), -1);
+        CHECKS.due("less than nothing with more", x.dig(4, -1, 5, 0, 0, 0), -1);
+        CHECKS.due("as before", x.soil(4, 1), 5);
+        CHECKS.due("and no red", x.soil(4, 0), 0);
+        for (int sort = 0; sort < 5; sort++) {
+            int[] v = new int[5];
+            v[sort] = 1;
+            CHECKS.due("1 together of " + sort, x.dig(8, v[0], v[1], v[2], v[3], v[4]), 2);
+            v[sort] = 9;
+            CHECKS.due("9 of " + sort, x.dig(8, v[0], v[1], v[2], v[3], v[4]), 2);
+            CHECKS.due("9 are there", x.soil(8, sort), 9);
+            CHECKS.due("and nothing else", x.soil(8, -1), 9);
+        }
+        MudBoot y = new MudBoot(8, 8);
+        for (int cell = 0; cell < 64; cell++) CHECKS.due("all are dug", y.dig(cell, 9, 9, 9, 9, 9), cell + 1);
+        CHECKS.due("one of them anew", y.dig(63, 1, 0, 0, 0, 0), 64);
+        CHECKS.due("one beyond", y.dig(64, 1, 0, 0, 0, 0), -1);
+    }
+
+    private static void refusedCarries() {
+        MudBoot x = new MudBoot(3, 3);
+        x.dig(0, 1, 0, 0, 0, 0);
+        x.dig(8, 0, 1, 0, 0, 0);
+        x.carry(7, 0);
+        x.carry(1, 7);
+        int[] froms = {7, 1, 9, -2, Integer.MAX_VALUE, Integer.MIN_VALUE};
+        for (int from : froms) {
+            CHECKS.due("refused from " + from, x.carry(7, from), false);
+            CHECKS.due("as before", x.soil(7, 0), 1);
+            CHECKS.due("as before onwards", x.soil(1, 0), 1);
+        }
+        CHECKS.due("a dug cell may be carried to", x.carry(8, 0), true);
+        CHECKS.due("its own is what was dug", x.soil(8, 0), 0);
+        CHECKS.due("a circle over dug cells", x.carry(0, 8), false);
+        CHECKS.due("a circle over all", x.carry(0, 1), false);
+        CHECKS.due("cell 0 from another", x.carry(0, 4), true);
+        CHECKS.due("cell 0 no more", x.carry(0, -1), true);
+        CHECKS.due("the last cell from the first", x.carry(8, 0), true);
+        CHECKS.due("told anew as it was", x.carry(7, 0), true);
+        CHECKS.due("no more", x.carry(7, -1), true);
+        CHECKS.due("guessed again", x.soil(7, 1), 1);
+        CHECKS.due("and what hangs on it", x.soil(1, 1), 1);
+    }
+
+    private static void wideGuesses() {
+        MudBoot x = new MudBoot(8, 8);
+        x.dig(0, 0, 0, 0, 0, 9);
+        CHECKS.due("fourteen away", x.soil(63, 4), 9);
+        CHECKS.due("its span", x.span(63, 4, false), 1000);
+        x.dig(63, 0, 0, 0, 7, 0);
+        CHECKS.due("seven away from both", x.soil(7, -1), 16);
+        CHECKS.due("seven from one, less from the other", x.soil(15, -1), 7);
+        MudBoot y = new MudBoot(8, 8);
+        // All twelve that are 3 away from (3, 3).
+        int[] ring = {3, 10, 12, 17, 21, 24, 30, 33, 37, 42, 44, 51};
+        for (int cell : ring) y.dig(cell, 9, 9, 9, 9, 9);
+        CHECKS.due("twelve together", y.soil(27, -1), 540);
+        CHECKS.due("of each sort", y.soil(27, 2), 108);
+        y.dig(26, 1, 0, 0, 0, 0);
+        CHECKS.due("a nearer one alone", y.soil(27, -1), 1);
+        y.layer(1, 0, 0, 0, 0);
+        CHECKS.due("far of it", y.far(0, 27), 0);
+    }
+
+    private static void spans() {
+        MudBoot x = new MudBoot(8, 8);
+        x.dig(63, 0, 1, 0, 0, 0);
+        CHECKS.due("all of one grain", x.span(63, 1, true), 1000);
+        CHECKS.due("the same from afar", x.span(0, 1, false), 1000);
+        CHECKS.due("none of it", x.span(0, 4, false), 0);
+        x.dig(62, 1, 9, 9, 9, 0);
+        x.dig(55, 9, 9, 9, 9, 9);
+        CHECKS.due("a dug one: its own", x.span(63, 1, false), 1000);
+        CHECKS.due("1 of 28, cut", x.span(62, 0, true), 35);
+        CHECKS.due("the least of two", x.span(54, 0, false), 35);
+        CHECKS.due("the greatest of two", x.span(54, 0, true), 200);
+        CHECKS.due("wing of none", x.span(54, 4, false), 0);
+        CHECKS.due("wing of a fifth", x.span(54, 4, true), 200);
+        CHECKS.due("the cell behind the last", x.span(64, 0, true), -1);
+        x.carry(54, 63);
+        CHECKS.due("the soil comes from afar", x.soil(54, 1), 1);
+        CHECKS.due("the nearest dug ones stay", x.span(54, 1, true), 321);
+    }
+
     public static void main(String[] args) {
         newObject();
         dig();
@@ -155,6 +272,12 @@ public final class LandTest {
         bar();
         soil();
         span();
+        sizes();
+        atFirst();
+        refusedDigs();
+        refusedCarries();
+        wideGuesses();
+        spans();
         CHECKS.finish("LandTest");
     }
 }

@@ -6,7 +6,9 @@ import java.lang.reflect.Modifier;
 import java.nio.file.Files;
 import java.nio.file.Path;
 import java.util.ArrayList;
+import java.util.HashMap;
 import java.util.List;
+import java.util.Map;
 import java.util.Set;
 import java.util.TreeSet;
 import java.util.regex.Matcher;
@@ -48,6 +50,52 @@ public final class LanguageTest {
         CHECKS.due("classes", classes <= 13, true);
     }
 
+    /** Rule 4: of the library only what the program has been seen to need. */
+    private static void library(String source) {
+        Set<String> known = Set.of("Math.min", "Math.max", "Math.abs", "Math.floorMod", "Long.bitCount", "System.arraycopy");
+        Matcher call = Pattern.compile("\\b([A-Z]\\w*[a-z]\\w*)\\.(\\w+)\\(").matcher(source);
+        while (call.find()) {
+            boolean own = source.contains("class " + call.group(1) + " ");
+            CHECKS.due("library " + call.group(), own || known.contains(call.group(1) + "." + call.group(2)), true);
+        }
+        Matcher type = Pattern.compile("\\b(double|float|Object|Integer|Long|List|ArrayList|StringBuilder|Arrays)\\b(?!\\.bitCount)")
+            .matcher(source);
+        CHECKS.due("other types", type.find(), false);
+    }
+
+    /** Rule 11: how deep calls go, each method once in a row; calls are known by their names alone. */
+    private static void depth(String source) {
+        Map<String, Set<String>> calls = new HashMap<>();
+        String name = null;
+        for (String line : source.split("\n")) {
+            Matcher head = Pattern.compile("^ {4}(?: {4})?(?:[\\w<>\\[\\]]+ )*(\\w+)\\([^()]*\\) \\{.*").matcher(line);
+            Matcher call = Pattern.compile("(?<!new )\\b(\\w+)\\(").matcher(line);
+            if (head.matches() && !Set.of("if", "for", "while", "switch").contains(head.group(1))) {
+                name = head.group(1);
+                calls.computeIfAbsent(name, n -> new TreeSet<>());
+            } else {
+                while (name != null && call.find()) calls.get(name).add(call.group(1));
+            }
+        }
+        for (String of : FACE) {
+            List<String> deepest = deepest(of, calls, new ArrayList<>());
+            CHECKS.due("depth of " + deepest, deepest.size() <= 8, true);
+        }
+        CHECKS.due("rows are seen", deepest("law", calls, new ArrayList<>()).contains("readOne"), true);
+    }
+
+    private static List<String> deepest(String of, Map<String, Set<String>> calls, List<String> ahead) {
+        List<String> row = new ArrayList<>(ahead);
+        row.add(of);
+        List<String> best = row;
+        for (String next : calls.getOrDefault(of, Set.of())) {
+            if (row.contains(next) || !calls.containsKey(next)) continue;
+            List<String> one = deepest(next, calls, row);
+            if (one.size() > best.size()) best = one;
+        }
+        return best;
+    }
+
     private static void face() {
         Set<String> publics = new TreeSet<>();
         List<String> others = new ArrayList<>();
@@ -77,6 +125,8 @@ public final class LanguageTest {
         for (Field f : c.getDeclaredFields()) {
             if (!Modifier.isStatic(f.getModifiers())) fields++;
             else CHECKS.due("static " + f + " is final", Modifier.isFinal(f.getModifiers()), true);
+            boolean constant = Set.of(int.class, long.class, boolean.class, char.class, String.class).contains(f.getType());
+            CHECKS.due("static " + f + " is a constant", !Modifier.isStatic(f.getModifiers()) || constant, true);
         }
         CHECKS.due("fields of " + c, fields <= 20, true);
         for (Method m : c.getDeclaredMethods()) {
@@ -90,6 +140,8 @@ public final class LanguageTest {
         String bare = source.replaceAll("(?s)/\\*.*?\\*/", "").replaceAll("//[^\n]*", "").replaceAll("\"[^\"\n]*\"", "\"\"");
         words(bare);
         sizes(bare);
+        library(bare);
+        depth(bare);
         face();
         CHECKS.finish("LanguageTest");
     }

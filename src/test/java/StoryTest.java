@@ -292,6 +292,183 @@ public final class StoryTest {
         CHECKS.due("carried soil counts", x.walked(0, 0, 1), 5);
     }
 
+    private static void stepEdges() {
+        MudBoot x = new MudBoot(8, 8);
+        for (int story = 0; story < 4; story++) {
+            CHECKS.due("least of all", x.step(story, 0, 0, 0), 1);
+            CHECKS.due("greatest of all", x.step(story, 63, 9, 23), 2);
+        }
+        int[] far = {Integer.MIN_VALUE, Integer.MAX_VALUE};
+        for (int v : far) {
+            CHECKS.due("others", x.step(v, 0, 0, 0), -1);
+            CHECKS.due("others", x.step(0, v, 0, 0), -1);
+            CHECKS.due("others", x.step(0, 0, v, 0), -1);
+            CHECKS.due("others", x.step(0, 0, 0, v), -1);
+            CHECKS.due("others", x.forget(v), -1);
+            CHECKS.due("others", x.wear(v), -1);
+            CHECKS.due("others", x.walked(v, -1, 0), -1);
+            CHECKS.due("others", x.walked(0, v, 0), -1);
+        }
+        CHECKS.due("no cell 64", x.step(0, 64, 0, 0), -1);
+        for (int story = 0; story < 4; story++) CHECKS.due("two each", x.about(10 + story), 2);
+        for (int n = 3; n <= 20; n++) CHECKS.due("step " + n, x.step(2, 1, 0, 0), n);
+        CHECKS.due("the 21st", x.step(2, 1, 0, 0), -1);
+        CHECKS.due("20 stay", x.about(12), 20);
+        CHECKS.due("the next story has room", x.step(3, 1, 0, 0), 3);
+        CHECKS.due("forgotten", x.forget(2), 20);
+        CHECKS.due("the others are not", x.about(13), 3);
+        CHECKS.due("nor the first", x.about(10), 2);
+        x.dig(0, 1, 0, 0, 0, 0);
+        CHECKS.due("nothing is walked", x.walked(2, -1, 0), 0);
+        CHECKS.due("of the other story all is", x.walked(3, 0, 0), 30);
+    }
+
+    private static MudBoot red(String text) {
+        MudBoot x = new MudBoot(3, 3);
+        x.dig(0, 1, 0, 0, 0, 0);
+        CHECKS.due("law " + text, Checks.tell(x, text), 0);
+        x.by(0);
+        return x;
+    }
+
+    private static void walks(MudBoot x, int wet, int hour, int due) {
+        x.step(0, 0, wet, hour);
+        CHECKS.due("red at wet " + wet + " hour " + hour, x.walked(0, -1, 0) < 1 ? 0 : x.walked(0, 0, 0), due);
+    }
+
+    private static void hundredths() {
+        MudBoot x = red("take wet*11; lose hour;");
+        walks(x, 9, 0, 99);
+        walks(x, 0, 1, 99);
+        walks(x, 9, 0, 198);
+        walks(x, 0, 1, 197);
+        x = red("take wet*11; lose hour*5-1;");
+        walks(x, 9, 0, 99);
+        walks(x, 9, 0, 198);
+        walks(x, 0, 0, 198);
+        walks(x, 0, 20, 2);
+        walks(x, 0, 20, 1);
+        walks(x, 0, 20, 1);
+        CHECKS.due("one grain is on", x.walked(0, -1, 0), 1);
+        walks(x, 0, 21, 0);
+        CHECKS.due("104 are 100: it is gone", x.walked(0, -1, 0), 0);
+        walks(x, 1, 23, 11);
+        x = red("take wet*11; lose hour*9999;");
+        walks(x, 9, 0, 99);
+        walks(x, 9, 23, 99);
+        walks(x, 0, 1, 0);
+        x = red("take wet*11; lose hour*-9999;");
+        walks(x, 9, 0, 99);
+        walks(x, 9, 23, 198);
+    }
+
+    private static void threeLayers() {
+        MudBoot x = red("take 80; lose hour*10; new far>0;");
+        x.dig(0, 1, 1, 1, 1, 1);
+        x.dig(1, 0, 0, 0, 1, 2);
+        x.dig(2, 3, 1, 0, 0, 0);
+        x.step(0, 0, 0, 0);
+        x.step(0, 1, 0, 0);
+        x.step(0, 2, 0, 0);
+        x.step(0, 2, 0, 3);
+        x.step(0, 2, 0, 0);
+        int[][] due = {{12, 12, 12, 12, 12}, {0, 0, 0, 19, 38}, {162, 54, 0, 0, 0}};
+        CHECKS.due("three", x.walked(0, -1, 0), 3);
+        for (int i = 0; i < 15; i++) CHECKS.due("layer " + i / 5 + " sort " + i % 5, x.walked(0, i / 5, i % 5), due[i / 5][i % 5]);
+        CHECKS.due("wear", x.wear(0), 3);
+        CHECKS.due("the inner ones are below 99", x.far(0, 0), 0);
+        CHECKS.due("and this", x.far(1, 1), 0);
+        CHECKS.due("99 and 54", x.far(2, 2), 102);
+        CHECKS.due("walked stays above", x.walked(0, 2, 0), 162);
+    }
+
+    private static void eightLayers() {
+        MudBoot x = red("take 50; lose hour*10; new 1=1;");
+        x.dig(0, 1, 1, 1, 1, 1);
+        for (int n = 0; n < 8; n++) x.step(0, 0, 0, 0);
+        CHECKS.due("eight", x.walked(0, -1, 0), 8);
+        x.step(0, 0, 0, 5);
+        CHECKS.due("still eight", x.walked(0, -1, 0), 8);
+        for (int i = 0; i < 40; i++) CHECKS.due("half of each", x.walked(0, i / 5, i % 5), i < 35 ? 5 : 15);
+        CHECKS.due("no layer 8", x.walked(0, 8, 0), -1);
+        MudBoot y = red("take 10+layers; new 1=1;");
+        for (int n = 0; n < 9; n++) y.step(0, 0, 0, 0);
+        for (int n = 0; n < 7; n++) CHECKS.due("taken with " + n + " on", y.walked(0, n, 0), 10 + n);
+        CHECKS.due("17 and 18", y.walked(0, 7, 0), 35);
+        MudBoot z = red("take 10; new 1=1; falls hour=1;");
+        for (int n = 0; n < 8; n++) z.step(0, 0, 0, 0);
+        z.step(0, 0, 0, 1);
+        CHECKS.due("one fell, one came", z.walked(0, -1, 0), 8);
+        CHECKS.due("the new one", z.walked(0, 7, 0), 10);
+    }
+
+    private static void wordEdges() {
+        CHECKS.due("wet and hour at most", taken("wet*hour/3", 9, 23), 69);
+        CHECKS.due("wet and hour at least", taken("wet+hour+1", 0, 0), 1);
+        CHECKS.due("cut towards 0", taken("7/-2+10", 0, 0), 7);
+        CHECKS.due("cut towards 0", taken("-7/2+10", 0, 0), 7);
+        CHECKS.due("cut towards 0", taken("-7/-2+10", 0, 0), 13);
+        CHECKS.due("less than one", taken("-1/9999+10", 0, 0), 10);
+        CHECKS.due("0 by 0", taken("0/0+1", 0, 0), 1);
+        CHECKS.due("below 0 by 0", taken("-5/0+1", 0, 0), 1);
+        CHECKS.due("by 0 in a product", taken("5/0*7+1", 0, 0), 1);
+        CHECKS.due("just below 1000000", taken("9999*100+99-9999*100-9", 0, 0), 90);
+        CHECKS.due("1000000", taken("9999*100+100-9999*100-9", 0, 0), 91);
+        CHECKS.due("1000001 is 1000000", taken("9999*100+101-9999*100-9", 0, 0), 91);
+        CHECKS.due("-1000000", taken("-9999*100-100+9999*100+191", 0, 0), 91);
+        CHECKS.due("-1000001 is -1000000", taken("-9999*100-101+9999*100+191", 0, 0), 91);
+        CHECKS.due("a product above", taken("1001*1000-9999*100-9", 0, 0), 91);
+        CHECKS.due("a product below", taken("1001*-1000+9999*100+191", 0, 0), 91);
+        CHECKS.due("products of the greatest", taken("9999*9999*9999*9999*0+5", 0, 0), 5);
+        CHECKS.due("minus of the least", taken("-(-9999*9999)-9999*100-9", 0, 0), 91);
+        MudBoot x = red("take mass/2+10;");
+        x.dig(0, 1, 1, 0, 0, 0);
+        int[] due = {5, 12, 23};
+        for (int n = 0; n < 3; n++) walks(x, 0, 0, due[n]);
+        CHECKS.due("and so of grey", x.walked(0, 0, 1), 23);
+        x = red("take steps; lose 100;");
+        for (int n = 0; n < 20; n++) walks(x, 0, 0, n);
+        x = red("take far/20+5; new hour=1;");
+        walks(x, 0, 0, 55);
+        walks(x, 0, 0, 60);
+        x.dig(8, 0, 1, 0, 0, 0);
+        x.step(0, 8, 0, 1);
+        CHECKS.due("far of the outermost: 1000", x.walked(0, 1, 1), 55);
+        x.step(0, 4, 0, 0);
+        CHECKS.due("half and half: 500", x.walked(0, 1, 1), 70);
+        CHECKS.due("30 of both together", x.walked(0, 1, 0), 15);
+    }
+
+    private static void grains() {
+        MudBoot x = red("take wet; new 1=1;");
+        walks(x, 0, 0, 0);
+        CHECKS.due("nothing is no layer", x.walked(0, -1, 0), 0);
+        walks(x, 1, 0, 1);
+        CHECKS.due("one grain is a layer", x.walked(0, -1, 0), 1);
+        x.step(0, 0, 0, 0);
+        CHECKS.due("nothing is no other layer", x.walked(0, -1, 0), 1);
+        x.step(0, 0, 1, 0);
+        CHECKS.due("one grain is another layer", x.walked(0, -1, 0), 2);
+        MudBoot y = red("take wet;");
+        y.dig(0, 1, 1, 1, 1, 1);
+        y.step(0, 0, 4, 0);
+        CHECKS.due("4 of five sorts are cut to nothing", y.walked(0, -1, 0), 0);
+        y.step(0, 0, 5, 0);
+        CHECKS.due("5 are one each", y.walked(0, 0, 4), 1);
+        y.step(0, 0, 9, 0);
+        CHECKS.due("and so are 9", y.walked(0, 0, 4), 2);
+        MudBoot z = red("take 99;");
+        for (int n = 1; n <= 12; n++) walks(z, 0, 0, Math.min(999, 99 * n));
+        z.dig(8, 0, 1, 0, 0, 0);
+        z.step(0, 8, 0, 0);
+        CHECKS.due("another sort has its own 999", z.walked(0, 0, 1), 99);
+        CHECKS.due("red stays", z.walked(0, 0, 0), 999);
+        MudBoot w = red("take 7; falls layers>0;");
+        walks(w, 0, 0, 7);
+        walks(w, 0, 0, 7);
+        CHECKS.due("fell, and one came without a new clause", w.walked(0, -1, 0), 1);
+    }
+
     public static void main(String[] args) {
         step();
         walked();
@@ -306,6 +483,12 @@ public final class StoryTest {
         limits();
         wear();
         withoutSoil();
+        stepEdges();
+        hundredths();
+        threeLayers();
+        eightLayers();
+        wordEdges();
+        grains();
         CHECKS.finish("StoryTest");
     }
 }
